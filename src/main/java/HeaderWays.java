@@ -365,8 +365,6 @@ public final class HeaderWays {
         int nodes = 2;
         int links = 0;
         int up = 0;
-        // The pairs of nodes that have a link, as bits: a text is read against a copy of them.
-        long pairs = 0;
         final int[] low = new int[MOST_LINKS];
         final int[] high = new int[MOST_LINKS];
         final int[] cost = new int[MOST_LINKS];
@@ -376,6 +374,14 @@ public final class HeaderWays {
 
         static long pairOf(int u, int v) {
             return 1L << (Math.min(u, v) * MOST_NODES + Math.max(u, v));
+        }
+
+        long pairsWithLinks() {
+            long pairs = 0;
+            for (int link = 0; link < links; link++) {
+                pairs |= pairOf(low[link], high[link]);
+            }
+            return pairs;
         }
 
         boolean hasNode(int node) {
@@ -391,6 +397,9 @@ public final class HeaderWays {
         }
 
         int otherEnd(int link, int node) {
+            if (!hasLink(link)) {
+                return NONE;
+            }
             if (low[link] == node) {
                 return high[link];
             }
@@ -420,7 +429,6 @@ public final class HeaderWays {
             nodes = newNodes;
             links = 0;
             up = 0;
-            pairs = 0;
             Arrays.fill(seen, 0);
         }
 
@@ -442,7 +450,6 @@ public final class HeaderWays {
             int link = links;
             low[link] = Math.min(u, v);
             high[link] = Math.max(u, v);
-            pairs |= pairOf(u, v);
             up |= 1 << link;
             for (int node = 0; node < nodes; node++) {
                 seen[node] |= 1 << link;
@@ -490,7 +497,7 @@ public final class HeaderWays {
 
         int findFault() {
             nodes = net.nodes;
-            pairs = net.pairs;
+            pairs = net.pairsWithLinks();
             end = 0;
             clauses = 0;
             for (int clause = 0; clause < MOST_CLAUSES; clause++) {

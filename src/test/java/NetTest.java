@@ -24,6 +24,7 @@ public final class NetTest {
         safe();
         order();
         orderOfFewer();
+        orderBehindDeadEnds();
         noOrder();
         Due.end();
     }
@@ -335,6 +336,22 @@ public final class NetTest {
         for (int k = -1; k < due.length - 1; k++) {
             Due.is("order(" + k + ") of fewer", x.order(k), due[k + 1]);
         }
+    }
+
+    // 0 could learn first, and 3 then, but behind them neither 1 nor 2 could.
+    private static void orderBehindDeadEnds() {
+        HeaderWays x = Due.told("nodes4;link0 1 7 1;link1 2 5 1;link1 3 6 1;link2 3 6 1;link0 3 1 1;link0 2 1 1");
+        x.fail(5);
+        x.fail(2);
+        x.fail(4);
+        Due.is("safe(0)", x.safe(0), 1);
+        int[] due = {4, 1, 2, 0, 3, HeaderWays.NONE};
+        for (int k = -1; k < due.length - 1; k++) {
+            Due.is("order(" + k + ") behind dead ends", x.order(k), due[k + 1]);
+        }
+        x.learn(0);
+        x.learn(3);
+        Due.is("order(-1) at the dead end", x.order(-1), HeaderWays.NOT);
     }
 
     private static void noOrder() {

@@ -185,6 +185,9 @@ public final class ToldTest {
         Due.is("count(1) behind it", x.count(1), 1);
         Due.is("link(0, 0)", x.link(0, 0), 4);
         Due.is("seen(0)", x.seen(0), 1);
+        Due.tell(x, "link 0 1 1 1;link 0 2 1 1", 2);
+        Due.tell(x, "link 0 3 1 1", 1);
+        Due.is("count(1) of four", x.count(1), 4);
     }
 
     private static void faultByWhatStands() {
