@@ -39,6 +39,7 @@ final class TermsEdges {
         ringsSizes();
         orderNone();
         orderLowest();
+        orderBehindManyDeadEnds();
         orderOfNobody();
         trace();
         firstThatFits();
@@ -305,6 +306,23 @@ final class TermsEdges {
         // 0 could learn first, and 3 then, but behind them neither 1 nor 2 could.
         Edge.run("'nodes4;link0 1 7 1;link1 2 5 1;link1 3 6 1;link2 3 6 1;link0 3 1 1;link0 2 1 1' tell()=7 fail(5) fail(2) fail(4) "
             + "safe(0)?1 " + Nets.row("order(", 1, 2, 0, 3) + "learn(0) learn(3) order(-1)!NOT");
+    }
+
+    // Most sets of nodes that could learn first lead nowhere, so all of them have to be gone through.
+    private static void orderBehindManyDeadEnds() {
+        Edge.of(0, "of several the one that has the lower NODE at the first place at which they differ");
+        Edge.run("'nodes8;link3 7 6 1;link6 7 4 1;link4 6 9 1;link1 2 6 1;link1 4 4 1;link1 5 9 1;link1 6 1 1;link0 3 9 1;link0 2 7 1;"
+            + "link0 7 9 1;link2 3 3 1;link0 5 1 1;link1 3 5 1;link0 4 4 1' tell()=15 "
+            + "fail(1) fail(2) fail(6) fail(7) fail(8) fail(9) fail(10) fail(12) fail(13) learn(0) "
+            + "fail(5) heal(6) heal(8) heal(9) heal(10) heal(12) learn(1) "
+            + "heal(1) fail(3) fail(6) heal(7) fail(8) fail(9) fail(11) fail(12) learn(2) "
+            + "fail(0) fail(1) heal(2) fail(4) heal(11) learn(3) "
+            + "heal(3) heal(4) fail(7) heal(8) heal(9) fail(10) fail(11) heal(12) learn(4) "
+            + "heal(0) fail(3) heal(5) heal(7) fail(8) heal(10) fail(12) heal(13) learn(5) "
+            + "fail(0) fail(4) fail(5) heal(6) fail(7) heal(8) heal(12) fail(13) learn(6) "
+            + "heal(1) fail(6) fail(8) fail(10) heal(11) fail(12) learn(7) "
+            + "heal(0) heal(5) heal(8) fail(9) fail(11) heal(12) heal(13) safe(0)?1 safe(1)?1 safe(2)?1 "
+            + Nets.row("order(", 3, 4, 5, 6, 7, 0, 1, 2) + "learn(0) order(-1)!NOT undo()=7 order(0)=3 learn(3) order(0)=4");
     }
 
     private static void orderOfNobody() {
